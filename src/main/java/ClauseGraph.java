@@ -15,11 +15,13 @@ public final class ClauseGraph {
     /** Enough for the nodes, and for two literals of each variable. */
     private static final int POINTS = 160;
 
+    private final Parts numbering;
     private final Net net;
     private final ClauseRow row;
 
     public ClauseGraph() {
-        net = new Net();
+        numbering = new Parts();
+        net = numbering.net;
         row = new ClauseRow();
     }
 
@@ -43,16 +45,16 @@ public final class ClauseGraph {
     }
 
     public int parts() {
-        return net.numbered().many;
+        return numbering.renewed().many;
     }
 
     public int part(int node) throws IndexOutOfBoundsException {
         needNode(node);
-        return net.numbered().numberOf[node];
+        return numbering.renewed().numberOf[node];
     }
 
     public int about(int part, int what) throws IndexOutOfBoundsException, IllegalArgumentException {
-        Parts all = net.numbered();
+        Parts all = numbering.renewed();
         if (part < 0 || part >= all.many) {
             throw new IndexOutOfBoundsException("there is no such part");
         }
@@ -98,7 +100,7 @@ public final class ClauseGraph {
     }
 
     public int missing() {
-        return net.numbered().arcsToOnePart();
+        return numbering.renewed().arcsToOnePart();
     }
 
     public void variables(int n) throws IllegalArgumentException {
@@ -153,11 +155,13 @@ public final class ClauseGraph {
     }
 
     public int round() {
-        return row.roundLength();
+        row.findRound();
+        return row.shortestRound;
     }
 
     public int rounds() {
-        return row.roundVariable();
+        row.findRound();
+        return row.leastRoundVariable;
     }
 
     public int classes() throws IllegalStateException {
@@ -254,35 +258,26 @@ public final class ClauseGraph {
             return NONE;
         }
 
-        /** Writes the points of a row, the least first, and answers how many they are. */
-        int list(int row, int[] into) {
-            int end = 0;
-            for (int word = 0; word < WORDS; word++) {
-                end = spell(bits[row * WORDS + word], word * WORD_BITS, into, end);
-            }
-            return end;
-        }
-
-        /** Writes those points of a row behind the end that are not seen yet; now they are. */
-        int listUnseen(int row, Table seen, int[] into, int end) {
+        /** Writes the points of a row behind an end, the least first, and answers the new end. */
+        int list(int row, int[] into, int end) {
             int newEnd = end;
             for (int word = 0; word < WORDS; word++) {
-                long fresh = bits[row * WORDS + word] & ~seen.bits[word];
-                seen.bits[word] |= fresh;
-                newEnd = spell(fresh, word * WORD_BITS, into, newEnd);
+                long left = bits[row * WORDS + word];
+                for (int still = Long.bitCount(left); still > 0 && newEnd < into.length; still--) {
+                    into[newEnd] = word * WORD_BITS + lowestOf(left);
+                    newEnd++;
+                    left &= left - 1L;
+                }
             }
             return newEnd;
         }
 
-        private static int spell(long word, int base, int[] into, int end) {
-            long left = word;
-            int newEnd = end;
-            for (int still = Long.bitCount(word); still > 0 && newEnd < into.length; still--) {
-                into[newEnd] = base + lowestOf(left);
-                newEnd++;
-                left &= left - 1L;
+        /** Row 0 becomes what another row has and the row 0 of seen has not; then seen has it, too. */
+        void takeUnseen(Table other, int otherRow, Table seen) {
+            for (int word = 0; word < WORDS; word++) {
+                bits[word] = other.bits[otherRow * WORDS + word] & ~seen.bits[word];
+                seen.bits[word] |= bits[word];
             }
-            return newEnd;
         }
 
         private static int lowestOf(long word) {
@@ -314,11 +309,11 @@ public final class ClauseGraph {
             if (ahead.has(from, to)) {
                 return;
             }
-            int many = behind.list(from, some);
+            int many = behind.list(from, some, 0);
             for (int i = 0; i < many; i++) {
                 ahead.join(some[i], ahead, to);
             }
-            many = ahead.list(to, some);
+            many = ahead.list(to, some, 0);
             for (int i = 0; i < many; i++) {
                 behind.join(some[i], behind, from);
             }
@@ -349,7 +344,7 @@ public final class ClauseGraph {
         }
 
         int listAhead(int point, int[] into) {
-            return ahead.list(point, into);
+            return ahead.list(point, into, 0);
         }
 
         /** How many of the points in the set's only row reach a point. */
@@ -367,6 +362,7 @@ public final class ClauseGraph {
         private final int[] queue = new int[POINTS];
         private final int[] far = new int[POINTS];
         private final Table seen = new Table(1);
+        private final Table fresh = new Table(1);
 
         /** The goal is looked for among what a point leads to, so that a walk to itself is never 0. */
         int shortest(Table arcs, int from, int to) {
@@ -379,7 +375,8 @@ public final class ClauseGraph {
                 if (arcs.has(queue[at], to)) {
                     return far[at] + 1;
                 }
-                int newEnd = arcs.listUnseen(queue[at], seen, queue, end);
+                fresh.takeUnseen(arcs, queue[at], seen);
+                int newEnd = fresh.list(0, queue, end);
                 for (int place = end; place < newEnd; place++) {
                     far[place] = far[at] + 1;
                 }
@@ -391,15 +388,14 @@ public final class ClauseGraph {
 
     /** The graph. */
     private static final class Net {
-        private final Table arcs = new Table(POINTS);
-        private final Reach reach = new Reach();
-        private final Parts numbering = new Parts(arcs, reach);
         private final Walker walker = new Walker();
         private final int[] goals = new int[POINTS];
         private int arcCount;
         private boolean reachKnown;
-        private boolean partsKnown;
+        final Table arcs = new Table(POINTS);
+        final Reach reach = new Reach();
         int size;
+        int changes;
 
         Net() {
             begin(1);
@@ -411,7 +407,7 @@ public final class ClauseGraph {
             arcCount = 0;
             reach.begin(n);
             reachKnown = true;
-            partsKnown = false;
+            changes++;
         }
 
         int add(int from, int to) {
@@ -423,7 +419,7 @@ public final class ClauseGraph {
             if (reachKnown) {
                 reach.lead(from, to);
             }
-            partsKnown = false;
+            changes++;
             return arcCount;
         }
 
@@ -434,11 +430,11 @@ public final class ClauseGraph {
             arcs.take(from, to);
             arcCount--;
             reachKnown = false;
-            partsKnown = false;
+            changes++;
             return true;
         }
 
-        /** What reaches what; an arc more is taken in at once, but one less needs a new start. */
+        /** An arc more was taken in at once, but after one less the reach has to start anew. */
         Reach settled() {
             if (!reachKnown) {
                 reach.begin(size);
@@ -451,19 +447,10 @@ public final class ClauseGraph {
         }
 
         private void leadFrom(int node) {
-            int many = arcs.list(node, goals);
-            for (int i = 0; i < many; i++) {
+            int ends = arcs.list(node, goals, 0);
+            for (int i = 0; i < ends; i++) {
                 reach.lead(node, goals[i]);
             }
-        }
-
-        Parts numbered() {
-            if (!partsKnown) {
-                settled();
-                numbering.number(size);
-                partsKnown = true;
-            }
-            return numbering;
         }
 
         int shortest(int from, int to) {
@@ -473,30 +460,37 @@ public final class ClauseGraph {
 
     /** The parts of the graph by their numbers. */
     private static final class Parts {
-        private final Table arcs;
-        private final Reach reach;
         private final int[] waiting = new int[POINTS];
         private final int[] chain = new int[POINTS];
         private final int[] some = new int[POINTS];
         private final Table goalSet = new Table(1);
-        private int nodeCount;
+        private int changesSeen;
+        final Net net = new Net();
         final int[] numberOf = new int[POINTS];
         final int[] least = new int[POINTS];
         int many;
 
-        Parts(Table arcs, Reach reach) {
-            this.arcs = arcs;
-            this.reach = reach;
+        /** Gives the numbers anew if the graph has changed. */
+        Parts renewed() {
+            if (changesSeen != net.changes) {
+                waitForOthers(net.settled());
+                giveNumbers();
+                changesSeen = net.changes;
+            }
+            return this;
         }
 
-        void number(int nodes) {
-            nodeCount = nodes;
-            many = 0;
-            for (int node = 0; node < nodes; node++) {
+        /** A node waits for as many nodes as reach it from parts without number, but its own. */
+        private void waitForOthers(Reach reach) {
+            for (int node = 0; node < net.size; node++) {
                 numberOf[node] = NONE;
                 waiting[node] = reach.countBehind(node) - reach.knotSize(node);
             }
-            for (int turn = 0; turn < nodes; turn++) {
+        }
+
+        private void giveNumbers() {
+            many = 0;
+            for (int turn = 0; turn < net.size; turn++) {
                 int next = leastReady();
                 if (next == NONE) {
                     break;
@@ -510,7 +504,7 @@ public final class ClauseGraph {
          * all nodes of a part wait for the same ones.
          */
         private int leastReady() {
-            for (int node = 0; node < nodeCount; node++) {
+            for (int node = 0; node < net.size; node++) {
                 if (numberOf[node] == NONE && waiting[node] == 0) {
                     return node;
                 }
@@ -519,10 +513,10 @@ public final class ClauseGraph {
         }
 
         private void giveNumber(int leastNode) {
-            int size = reach.knotSize(leastNode);
-            int reached = reach.listAhead(leastNode, some);
+            int size = net.reach.knotSize(leastNode);
+            int reached = net.reach.listAhead(leastNode, some);
             for (int i = 0; i < reached; i++) {
-                if (reach.inOneKnot(leastNode, some[i])) {
+                if (net.reach.inOneKnot(leastNode, some[i])) {
                     numberOf[some[i]] = many;
                 } else {
                     waiting[some[i]] -= size;
@@ -533,7 +527,7 @@ public final class ClauseGraph {
         }
 
         int sizeOf(int part) {
-            return reach.knotSize(least[part]);
+            return net.reach.knotSize(least[part]);
         }
 
         int arcsInside(int part) {
@@ -546,8 +540,8 @@ public final class ClauseGraph {
 
         private int countArcs(int part, boolean inside) {
             int found = 0;
-            for (int node = 0; node < nodeCount; node++) {
-                int ends = numberOf[node] == part ? arcs.list(node, some) : 0;
+            for (int node = 0; node < net.size; node++) {
+                int ends = numberOf[node] == part ? net.arcs.list(node, some, 0) : 0;
                 for (int i = 0; i < ends; i++) {
                     if (inside == (numberOf[some[i]] == part)) {
                         found++;
@@ -566,9 +560,9 @@ public final class ClauseGraph {
         int goalsAlone(int part) {
             findGoals(part);
             int alone = 0;
-            int ends = goalSet.list(0, some);
+            int ends = goalSet.list(0, some, 0);
             for (int i = 0; i < ends; i++) {
-                if (reach.countBehindIn(some[i], goalSet) == 1) {
+                if (net.reach.countBehindIn(some[i], goalSet) == 1) {
                     alone++;
                 }
             }
@@ -578,8 +572,8 @@ public final class ClauseGraph {
         /** Each part to which a part goes stands in the set with its least node. */
         private void findGoals(int part) {
             goalSet.wipe();
-            for (int node = 0; node < nodeCount; node++) {
-                int ends = numberOf[node] == part ? arcs.list(node, some) : 0;
+            for (int node = 0; node < net.size; node++) {
+                int ends = numberOf[node] == part ? net.arcs.list(node, some, 0) : 0;
                 for (int i = 0; i < ends; i++) {
                     int goal = numberOf[some[i]];
                     if (goal != part) {
@@ -596,7 +590,7 @@ public final class ClauseGraph {
         int longestChain(int part) {
             for (int at = many - 1; at >= part; at--) {
                 chain[at] = 1;
-                int reached = reach.listAhead(least[at], some);
+                int reached = net.reach.listAhead(least[at], some);
                 for (int i = 0; i < reached; i++) {
                     int later = numberOf[some[i]];
                     if (later > at) {
@@ -619,10 +613,10 @@ public final class ClauseGraph {
             int lasts = 0;
             for (int part = 0; part < many; part++) {
                 int size = sizeOf(part);
-                if (reach.countBehind(least[part]) == size) {
+                if (net.reach.countBehind(least[part]) == size) {
                     firsts++;
                 }
-                if (reach.countAhead(least[part]) == size) {
+                if (net.reach.countAhead(least[part]) == size) {
                     lasts++;
                 }
             }
@@ -641,8 +635,8 @@ public final class ClauseGraph {
         private int taken;
         private int failsAt;
         private boolean roundKnown;
-        private int shortestRound;
-        private int leastRoundVariable;
+        int shortestRound;
+        int leastRoundVariable;
         int variables;
         int many;
 
@@ -749,18 +743,8 @@ public final class ClauseGraph {
             return someFixed ? found + 2 : found;
         }
 
-        int roundLength() {
-            findRound();
-            return shortestRound;
-        }
-
-        int roundVariable() {
-            findRound();
-            return leastRoundVariable;
-        }
-
         /** There is a walk round just when there is no good assignment. */
-        private void findRound() {
+        void findRound() {
             if (roundKnown) {
                 return;
             }
