@@ -584,7 +584,7 @@ public final class ClauseGraph {
         }
 
         /**
-         * A part goes to parts of greater numbers alone, so theirs are known first. To look at all that
+         * A part goes only to parts of greater numbers, so theirs are known first. To look at all that
          * it reaches, not just at its goals, finds no longer chain: the way there goes through parts, too.
          */
         int longestChain(int part) {

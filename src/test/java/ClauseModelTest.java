@@ -1,6 +1,9 @@
 import java.util.Random;
 
-/** Long runs on clauses, every answer compared with the plain form; the seeds are written down. */
+/**
+ * Long runs on clauses, every answer compared with the plain form; the seeds are written down. The
+ * runs go on beyond the 512 calls that the document promises, since the form of the class allows it.
+ */
 public final class ClauseModelTest {
     private static final Checks CHECKS = new Checks("ClauseModelTest");
 

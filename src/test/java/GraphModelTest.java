@@ -1,6 +1,9 @@
 import java.util.Random;
 
-/** Long runs on graphs, every answer compared with the plain form; the seeds are written down. */
+/**
+ * Long runs on graphs, every answer compared with the plain form; the seeds are written down. The
+ * runs go on beyond the 512 calls that the document promises, since the form of the class allows it.
+ */
 public final class GraphModelTest {
     private static final Checks CHECKS = new Checks("GraphModelTest");
 
@@ -27,6 +30,7 @@ public final class GraphModelTest {
             int from = random.nextInt(n);
             int to = random.nextInt(n);
             if (random.nextInt(10) < cutsOfTen) {
+                to = plain.someGoal(from, to);
                 CHECKS.due(at + "cut", x.cut(from, to), plain.cut(from, to));
             } else {
                 CHECKS.due(at + "arc", x.arc(from, to), plain.arc(from, to));

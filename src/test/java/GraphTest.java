@@ -8,7 +8,9 @@ public final class GraphTest {
         promise1NewObject();
         promise2Nodes();
         promise3Arc();
+        promise3AThousandArcs();
         promise4Cut();
+        promise4CutFarUp();
         promise5Parts();
         promise6Part();
         promise6PartsTakeTheLeastNodeFirst();
@@ -95,6 +97,19 @@ public final class GraphTest {
         due("3 taken in after the parts were told again", x.parts(), 2);
     }
 
+    /** So many arcs take more than the 512 calls of the document; the limit is kept all the same. */
+    private static void promise3AThousandArcs() {
+        ClauseGraph x = graph(160);
+        for (int i = 0; i < 1000; i++) {
+            due("3 arc " + (i + 1), x.arc(i % 160, i / 160), i + 1);
+        }
+        due("3 one too many", x.arc(159, 159), -1);
+        due("3 it is not there", x.cut(159, 159), false);
+        CHECKS.refused("3 no node comes first", INDEX, () -> x.arc(160, 0));
+        x.cut(0, 0);
+        due("3 room again", x.arc(159, 159), 1000);
+    }
+
     private static void promise4Cut() {
         ClauseGraph x = graph(3, 0, 1, 1, 2, 2, 0);
         due("4 one part before", x.parts(), 1);
@@ -110,6 +125,27 @@ public final class GraphTest {
         CHECKS.refused("4 from 3", INDEX, () -> x.cut(3, 0));
         CHECKS.refused("4 to -1", INDEX, () -> x.cut(0, -1));
         CHECKS.refused("4 to 3", INDEX, () -> x.cut(0, 3));
+    }
+
+    private static void promise4CutFarUp() {
+        int[] far = {0, 63, 64, 127, 128, 159};
+        ClauseGraph x = graph(160);
+        for (int from : far) {
+            for (int to : far) {
+                x.arc(from, to);
+            }
+        }
+        int left = far.length * far.length;
+        for (int from : far) {
+            for (int to : far) {
+                due("4 cut(" + from + ", " + to + ")", x.cut(from, to), true);
+                due("4 gone " + from + ", " + to, x.cut(from, to), false);
+                left--;
+                due("4 the others stay", x.arc(1, 2), left + 1);
+                x.cut(1, 2);
+            }
+        }
+        due("4 all are gone", x.parts(), 160);
     }
 
     private static void promise5Parts() {
@@ -166,6 +202,10 @@ public final class GraphTest {
     }
 
     private static void promise7Alone() {
+        due("7 alone to both, asked at once", graph(3, 0, 1, 0, 2).about(0, 5), 2);
+        ClauseGraph two = graph(5, 0, 1, 0, 2, 0, 3, 4, 3);
+        due("7 alone to three", two.about(two.part(0), 5), 3);
+        due("7 then alone to one", two.about(two.part(4), 5), 1);
         ClauseGraph x = graph(4, 0, 1, 1, 2, 2, 3, 0, 2, 0, 3);
         due("7 goes to three", x.about(0, 4), 3);
         due("7 alone to the next only", x.about(0, 5), 1);

@@ -28,6 +28,16 @@ final class PlainGraph {
         return there;
     }
 
+    /** A node to which an arc goes, looked for from a node on; that node itself if there is none. */
+    int someGoal(int from, int start) {
+        for (int i = 0; i < n; i++) {
+            if (arc[from][(start + i) % n]) {
+                return (start + i) % n;
+            }
+        }
+        return start;
+    }
+
     /** The lengths of all shortest walks of at least one arc, by trying every node between. */
     int[][] walks() {
         int[][] length = new int[n][n];
