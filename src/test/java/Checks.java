@@ -25,6 +25,14 @@ final class Checks {
         due(what, got ? 1 : 0, want ? 1 : 0);
     }
 
+    void due(String what, String got, String want) {
+        made++;
+        if (!got.equals(want)) {
+            wrong++;
+            System.out.println(name + ": " + what + " answered " + got + ", due is " + want);
+        }
+    }
+
     /** The exception must be of just this class. */
     void refused(String what, Class<? extends RuntimeException> due, Deed deed) {
         made++;

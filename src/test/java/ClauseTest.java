@@ -23,16 +23,6 @@ public final class ClauseTest {
         CHECKS.end();
     }
 
-    /** n variables and the clauses that stand in pairs. */
-    private static ClauseGraph clauses(int n, int... literals) {
-        ClauseGraph x = new ClauseGraph();
-        x.variables(n);
-        for (int i = 0; i + 1 < literals.length; i += 2) {
-            x.clause(literals[i], literals[i + 1]);
-        }
-        return x;
-    }
-
     private static void due(String what, long got, long want) {
         CHECKS.due(what, got, want);
     }
@@ -42,7 +32,7 @@ public final class ClauseTest {
     }
 
     private static void promise12Variables() {
-        ClauseGraph x = clauses(3, 3, 3);
+        ClauseGraph x = Make.clauses(3, 3, 3);
         x.nodes(2);
         x.arc(0, 1);
         for (int n : new int[] {0, -1, 81, Integer.MIN_VALUE, Integer.MAX_VALUE}) {
@@ -67,7 +57,7 @@ public final class ClauseTest {
     }
 
     private static void promise13Clause() {
-        ClauseGraph x = clauses(4);
+        ClauseGraph x = Make.clauses(4);
         due("13 first", x.clause(1, -4), 1);
         due("13 the same again is one more", x.clause(1, -4), 2);
         due("13 the same literal twice", x.clause(2, 2), 3);
@@ -83,7 +73,7 @@ public final class ClauseTest {
     }
 
     private static void promise13FourHundred() {
-        ClauseGraph x = clauses(2);
+        ClauseGraph x = Make.clauses(2);
         for (int i = 1; i <= 400; i++) {
             due("13 clause " + i, x.clause(1, 2), i);
         }
@@ -100,7 +90,7 @@ public final class ClauseTest {
     }
 
     private static void promise14Drop() {
-        ClauseGraph x = clauses(3, 1, 1, 2, 2, 3, 3);
+        ClauseGraph x = Make.clauses(3, 1, 1, 2, 2, 3, 3);
         CHECKS.refused("14 drop(-1)", INDEX, () -> x.drop(-1));
         CHECKS.refused("14 drop(3)", INDEX, () -> x.drop(3));
         CHECKS.refused("14 drop(400)", INDEX, () -> x.drop(400));
@@ -118,7 +108,7 @@ public final class ClauseTest {
     }
 
     private static void promise14DropKeepsTheStepsOfOthers() {
-        ClauseGraph x = clauses(2, 1, 2, 2, 1, -1, -1);
+        ClauseGraph x = Make.clauses(2, 1, 2, 2, 1, -1, -1);
         due("14 2 must be", x.fixed(2), 1);
         x.drop(0);
         due("14 2 must be by the other one", x.fixed(2), 1);
@@ -127,29 +117,29 @@ public final class ClauseTest {
     }
 
     private static void promise15Can() {
-        due("15 no clauses", clauses(80).can(), true);
-        due("15 each of four", clauses(2, 1, 2, 1, -2, -1, 2, -1, -2).can(), false);
-        due("15 three of four", clauses(2, 1, 2, 1, -2, -1, 2).can(), true);
-        due("15 a literal or its opposite", clauses(1, 1, -1).can(), true);
-        due("15 both", clauses(1, 1, 1, -1, -1).can(), false);
+        due("15 no clauses", Make.clauses(80).can(), true);
+        due("15 each of four", Make.clauses(2, 1, 2, 1, -2, -1, 2, -1, -2).can(), false);
+        due("15 three of four", Make.clauses(2, 1, 2, 1, -2, -1, 2).can(), true);
+        due("15 a literal or its opposite", Make.clauses(1, 1, -1).can(), true);
+        due("15 both", Make.clauses(1, 1, 1, -1, -1).can(), false);
     }
 
     private static void promise16Value() {
-        ClauseGraph x = clauses(4, 1, 2, -2, 3);
+        ClauseGraph x = Make.clauses(4, 1, 2, -2, 3);
         int[] want = {0, 1, 1, 0};
         for (int variable = 1; variable <= 4; variable++) {
             due("16 value(" + variable + ")", x.value(variable), want[variable - 1]);
         }
-        due("16 the first variable counts most", clauses(3, 1, 2, 1, 3).value(1), 0);
-        due("16 the last one pays", clauses(2, 1, 2).value(2), 1);
-        due("16 a later clause binds an earlier one", clauses(2, 1, -2, 2, 2).value(1), 1);
+        due("16 the first variable counts most", Make.clauses(3, 1, 2, 1, 3).value(1), 0);
+        due("16 the last one pays", Make.clauses(2, 1, 2).value(2), 1);
+        due("16 a later clause binds an earlier one", Make.clauses(2, 1, -2, 2, 2).value(1), 1);
         for (int variable : new int[] {0, -1, 5, Integer.MIN_VALUE, Integer.MAX_VALUE}) {
             CHECKS.refused("16 value(" + variable + ")", ARGUMENT, () -> x.value(variable));
         }
     }
 
     private static void promise17Fixed() {
-        ClauseGraph x = clauses(5, 1, 2, 1, -2, -1, -3, 4, 5);
+        ClauseGraph x = Make.clauses(5, 1, 2, 1, -2, -1, -3, 4, 5);
         int[] want = {1, 2, 0, 2, 2};
         for (int variable = 1; variable <= 5; variable++) {
             due("17 fixed(" + variable + ")", x.fixed(variable), want[variable - 1]);
@@ -160,7 +150,7 @@ public final class ClauseTest {
     }
 
     private static void promise18Implies() {
-        ClauseGraph x = clauses(5, -1, 2, -2, 3, 4, 4);
+        ClauseGraph x = Make.clauses(5, -1, 2, -2, 3, 4, 4);
         due("18 in two steps", x.implies(1, 3), true);
         due("18 the opposites go back", x.implies(-3, -1), true);
         due("18 not so", x.implies(3, 1), false);
@@ -178,7 +168,7 @@ public final class ClauseTest {
     }
 
     private static void promise19Fails() {
-        ClauseGraph x = clauses(3, 3, 3, 1, 2, 1, -2, -1, 2);
+        ClauseGraph x = Make.clauses(3, 3, 3, 1, 2, 1, -2, -1, 2);
         due("19 good still", x.fails(), -1);
         x.clause(-1, -2);
         due("19 the fifth", x.fails(), 5);
@@ -188,11 +178,11 @@ public final class ClauseTest {
         due("19 another reason then", x.fails(), 5);
         x.drop(0);
         due("19 good again", x.fails(), -1);
-        due("19 the fewest", clauses(1, -1, -1, 1, 1, 1, 1).fails(), 2);
+        due("19 the fewest", Make.clauses(1, -1, -1, 1, 1, 1, 1).fails(), 2);
     }
 
     private static void promise20And21Round() {
-        ClauseGraph x = clauses(3, 1, 2, 1, -2, -1, 3);
+        ClauseGraph x = Make.clauses(3, 1, 2, 1, -2, -1, 3);
         due("20 none", x.round(), -1);
         due("21 none", x.rounds(), -1);
         x.clause(-1, -3);
@@ -206,29 +196,29 @@ public final class ClauseTest {
         x.drop(5);
         due("20 longer again", x.round(), 4);
         due("21 the first variable again", x.rounds(), 1);
-        due("20 one there, many back", clauses(3, 1, 1, -1, 2, -2, 3, -3, -1).round(), 4);
-        due("20 one there, two back", clauses(2, -1, 2, -2, -2, 1, 2).round(), 3);
-        due("21 one there, two back", clauses(2, -1, 2, -2, -2, 1, 2).rounds(), 2);
+        due("20 one there, many back", Make.clauses(3, 1, 1, -1, 2, -2, 3, -3, -1).round(), 4);
+        due("20 one there, two back", Make.clauses(2, -1, 2, -2, -2, 1, 2).round(), 3);
+        due("21 one there, two back", Make.clauses(2, -1, 2, -2, -2, 1, 2).rounds(), 2);
     }
 
     private static void promise21TheLeastVariable() {
-        due("21 two as short", clauses(4, 4, 4, -4, -4, 2, 2, -2, -2).rounds(), 2);
-        due("20 of the last", clauses(80, 80, 80, -80, -80).round(), 2);
-        due("21 the last", clauses(80, 80, 80, -80, -80).rounds(), 80);
+        due("21 two as short", Make.clauses(4, 4, 4, -4, -4, 2, 2, -2, -2).rounds(), 2);
+        due("20 of the last", Make.clauses(80, 80, 80, -80, -80).round(), 2);
+        due("21 the last", Make.clauses(80, 80, 80, -80, -80).rounds(), 80);
     }
 
     private static void promise22Classes() {
-        due("22 no clauses", clauses(80).classes(), 160);
-        due("22 one is fixed", clauses(3, 1, 1).classes(), 6);
-        due("22 two are fixed, one each way", clauses(3, 1, 1, -2, -2).classes(), 4);
-        due("22 all are fixed", clauses(2, 1, 1, -2, -2).classes(), 2);
-        due("22 two that are the same", clauses(3, -1, 2, -2, 1).classes(), 4);
-        due("22 two that are opposites", clauses(3, 1, 2, -1, -2).classes(), 4);
-        due("22 one way only", clauses(2, -1, 2).classes(), 4);
+        due("22 no clauses", Make.clauses(80).classes(), 160);
+        due("22 one is fixed", Make.clauses(3, 1, 1).classes(), 6);
+        due("22 two are fixed, one each way", Make.clauses(3, 1, 1, -2, -2).classes(), 4);
+        due("22 all are fixed", Make.clauses(2, 1, 1, -2, -2).classes(), 2);
+        due("22 two that are the same", Make.clauses(3, -1, 2, -2, 1).classes(), 4);
+        due("22 two that are opposites", Make.clauses(3, 1, 2, -1, -2).classes(), 4);
+        due("22 one way only", Make.clauses(2, -1, 2).classes(), 4);
     }
 
     private static void nothingGoodIsRefused() {
-        ClauseGraph x = clauses(2, 1, 1, -1, -1);
+        ClauseGraph x = Make.clauses(2, 1, 1, -1, -1);
         CHECKS.refused("16 value", STATE, () -> x.value(2));
         CHECKS.refused("16 no variable comes first", ARGUMENT, () -> x.value(3));
         CHECKS.refused("17 fixed", STATE, () -> x.fixed(2));

@@ -24,16 +24,6 @@ public final class GraphTest {
         CHECKS.end();
     }
 
-    /** A graph of n nodes with the arcs that stand in pairs. */
-    private static ClauseGraph graph(int n, int... ends) {
-        ClauseGraph x = new ClauseGraph();
-        x.nodes(n);
-        for (int i = 0; i + 1 < ends.length; i += 2) {
-            x.arc(ends[i], ends[i + 1]);
-        }
-        return x;
-    }
-
     private static void due(String what, long got, long want) {
         CHECKS.due(what, got, want);
     }
@@ -56,7 +46,7 @@ public final class GraphTest {
     }
 
     private static void promise2Nodes() {
-        ClauseGraph x = graph(3, 0, 1, 1, 2);
+        ClauseGraph x = Make.graph(3, 0, 1, 1, 2);
         x.clause(1, 1);
         for (int n : new int[] {0, -1, 161, Integer.MIN_VALUE, Integer.MAX_VALUE}) {
             CHECKS.refused("2 nodes(" + n + ")", ARGUMENT, () -> x.nodes(n));
@@ -76,7 +66,7 @@ public final class GraphTest {
     }
 
     private static void promise3Arc() {
-        ClauseGraph x = graph(4);
+        ClauseGraph x = Make.graph(4);
         due("3 first", x.arc(0, 1), 1);
         due("3 back", x.arc(1, 0), 2);
         due("3 to itself", x.arc(2, 2), 3);
@@ -99,7 +89,7 @@ public final class GraphTest {
 
     /** So many arcs take more than the 512 calls of the document; the limit is kept all the same. */
     private static void promise3AThousandArcs() {
-        ClauseGraph x = graph(160);
+        ClauseGraph x = Make.graph(160);
         for (int i = 0; i < 1000; i++) {
             due("3 arc " + (i + 1), x.arc(i % 160, i / 160), i + 1);
         }
@@ -111,7 +101,7 @@ public final class GraphTest {
     }
 
     private static void promise4Cut() {
-        ClauseGraph x = graph(3, 0, 1, 1, 2, 2, 0);
+        ClauseGraph x = Make.graph(3, 0, 1, 1, 2, 2, 0);
         due("4 one part before", x.parts(), 1);
         due("4 not there", x.cut(1, 0), false);
         due("4 there", x.cut(1, 2), true);
@@ -129,7 +119,7 @@ public final class GraphTest {
 
     private static void promise4CutFarUp() {
         int[] far = {0, 63, 64, 127, 128, 159};
-        ClauseGraph x = graph(160);
+        ClauseGraph x = Make.graph(160);
         for (int from : far) {
             for (int to : far) {
                 x.arc(from, to);
@@ -149,16 +139,16 @@ public final class GraphTest {
     }
 
     private static void promise5Parts() {
-        due("5 no arcs", graph(7).parts(), 7);
-        due("5 a way and no way back", graph(4, 0, 1, 1, 2, 2, 3).parts(), 4);
-        due("5 a ring", graph(4, 0, 1, 1, 2, 2, 3, 3, 0).parts(), 1);
-        due("5 two rings with an arc between", graph(5, 0, 1, 1, 0, 1, 2, 2, 3, 3, 4, 4, 2).parts(), 2);
-        due("5 an arc to itself joins nothing", graph(2, 0, 0, 1, 1).parts(), 2);
-        due("5 a ring far up", graph(160, 63, 64, 64, 127, 127, 128, 128, 159, 159, 63).parts(), 156);
+        due("5 no arcs", Make.graph(7).parts(), 7);
+        due("5 a way and no way back", Make.graph(4, 0, 1, 1, 2, 2, 3).parts(), 4);
+        due("5 a ring", Make.graph(4, 0, 1, 1, 2, 2, 3, 3, 0).parts(), 1);
+        due("5 two rings with an arc between", Make.graph(5, 0, 1, 1, 0, 1, 2, 2, 3, 3, 4, 4, 2).parts(), 2);
+        due("5 an arc to itself joins nothing", Make.graph(2, 0, 0, 1, 1).parts(), 2);
+        due("5 a ring far up", Make.graph(160, 63, 64, 64, 127, 127, 128, 128, 159, 159, 63).parts(), 156);
     }
 
     private static void promise6Part() {
-        ClauseGraph x = graph(5, 4, 3, 3, 2, 2, 1, 1, 0);
+        ClauseGraph x = Make.graph(5, 4, 3, 3, 2, 2, 1, 1, 0);
         for (int node = 0; node < 5; node++) {
             due("6 backward " + node, x.part(node), 4 - node);
         }
@@ -167,12 +157,12 @@ public final class GraphTest {
     }
 
     private static void promise6PartsTakeTheLeastNodeFirst() {
-        ClauseGraph x = graph(6, 5, 0, 0, 3, 1, 4, 4, 1);
+        ClauseGraph x = Make.graph(6, 5, 0, 0, 3, 1, 4, 4, 1);
         int[] want = {3, 0, 1, 4, 0, 2};
         for (int node = 0; node < 6; node++) {
             due("6 least first " + node, x.part(node), want[node]);
         }
-        ClauseGraph freed = graph(5, 3, 0, 4, 1, 0, 2);
+        ClauseGraph freed = Make.graph(5, 3, 0, 4, 1, 0, 2);
         int[] wantFreed = {1, 4, 2, 0, 3};
         for (int node = 0; node < 5; node++) {
             due("6 a part is free at once " + node, freed.part(node), wantFreed[node]);
@@ -180,7 +170,7 @@ public final class GraphTest {
     }
 
     private static void promise7About() {
-        ClauseGraph x = graph(7, 1, 2, 2, 1, 2, 2, 1, 3, 2, 3, 1, 4, 4, 5, 5, 4, 2, 5);
+        ClauseGraph x = Make.graph(7, 1, 2, 2, 1, 2, 2, 1, 3, 2, 3, 1, 4, 4, 5, 5, 4, 2, 5);
         int[][] want = {
             {1, 0, 0, 0, 0, 0, 1},
             {2, 1, 3, 4, 2, 2, 2},
@@ -202,11 +192,11 @@ public final class GraphTest {
     }
 
     private static void promise7Alone() {
-        due("7 alone to both, asked at once", graph(3, 0, 1, 0, 2).about(0, 5), 2);
-        ClauseGraph two = graph(5, 0, 1, 0, 2, 0, 3, 4, 3);
+        due("7 alone to both, asked at once", Make.graph(3, 0, 1, 0, 2).about(0, 5), 2);
+        ClauseGraph two = Make.graph(5, 0, 1, 0, 2, 0, 3, 4, 3);
         due("7 alone to three", two.about(two.part(0), 5), 3);
         due("7 then alone to one", two.about(two.part(4), 5), 1);
-        ClauseGraph x = graph(4, 0, 1, 1, 2, 2, 3, 0, 2, 0, 3);
+        ClauseGraph x = Make.graph(4, 0, 1, 1, 2, 2, 3, 0, 2, 0, 3);
         due("7 goes to three", x.about(0, 4), 3);
         due("7 alone to the next only", x.about(0, 5), 1);
         x.cut(1, 2);
@@ -224,12 +214,12 @@ public final class GraphTest {
     }
 
     private static void promise7Chain() {
-        ClauseGraph x = graph(6, 0, 5, 0, 1, 1, 2, 2, 3, 3, 5, 4, 4);
+        ClauseGraph x = Make.graph(6, 0, 5, 0, 1, 1, 2, 2, 3, 3, 5, 4, 4);
         due("7 the longest chain", x.about(x.part(0), 6), 5);
         due("7 from its middle", x.about(x.part(2), 6), 3);
         due("7 nowhere, but to itself", x.about(x.part(4), 6), 1);
         due("7 its end", x.about(x.part(5), 6), 1);
-        ClauseGraph all = graph(160);
+        ClauseGraph all = Make.graph(160);
         for (int node = 159; node > 0; node--) {
             all.arc(node, node - 1);
         }
@@ -238,7 +228,7 @@ public final class GraphTest {
     }
 
     private static void promise8Reaches() {
-        ClauseGraph x = graph(4, 0, 1, 1, 2);
+        ClauseGraph x = Make.graph(4, 0, 1, 1, 2);
         due("8 one arc", x.reaches(0, 1), true);
         due("8 two arcs", x.reaches(0, 2), true);
         due("8 not back", x.reaches(2, 0), false);
@@ -251,7 +241,7 @@ public final class GraphTest {
     }
 
     private static void promise9Walk() {
-        ClauseGraph x = graph(6, 0, 1, 1, 2, 2, 3, 3, 0, 0, 2, 4, 4);
+        ClauseGraph x = Make.graph(6, 0, 1, 1, 2, 2, 3, 3, 0, 0, 2, 4, 4);
         due("9 an arc", x.walk(0, 1), 1);
         due("9 the short way", x.walk(0, 3), 2);
         due("9 round", x.walk(0, 0), 3);
@@ -263,7 +253,7 @@ public final class GraphTest {
         CHECKS.refused("9 from 6", INDEX, () -> x.walk(6, 0));
         CHECKS.refused("9 to -1", INDEX, () -> x.walk(0, -1));
         CHECKS.refused("9 to 6", INDEX, () -> x.walk(0, 6));
-        ClauseGraph ring = graph(160);
+        ClauseGraph ring = Make.graph(160);
         for (int node = 0; node < 160; node++) {
             ring.arc(node, (node + 1) % 160);
         }
@@ -272,7 +262,7 @@ public final class GraphTest {
     }
 
     private static void promise10Counted() {
-        ClauseGraph x = graph(5, 0, 1, 1, 2, 2, 1, 3, 1);
+        ClauseGraph x = Make.graph(5, 0, 1, 1, 2, 2, 1, 3, 1);
         due("10 ahead of 0", x.counted(0, 0), 3);
         due("10 behind 0", x.counted(0, 1), 1);
         due("10 ahead of 1", x.counted(1, 0), 2);
@@ -288,13 +278,13 @@ public final class GraphTest {
 
     private static void promise11Missing() {
         due("11 one node", new ClauseGraph().missing(), 0);
-        due("11 two lone nodes", graph(2).missing(), 2);
-        due("11 a way", graph(4, 0, 1, 1, 2, 2, 3).missing(), 1);
-        due("11 a ring", graph(3, 0, 1, 1, 2, 2, 0).missing(), 0);
-        due("11 one to three", graph(4, 0, 1, 0, 2, 0, 3).missing(), 3);
-        due("11 three to one", graph(4, 1, 0, 2, 0, 3, 0).missing(), 3);
-        due("11 a lone node is first and last", graph(4, 0, 1, 0, 2).missing(), 3);
-        due("11 arcs to itself help nothing", graph(2, 0, 0, 1, 1).missing(), 2);
-        due("11 two ways", graph(4, 0, 1, 2, 3).missing(), 2);
+        due("11 two lone nodes", Make.graph(2).missing(), 2);
+        due("11 a way", Make.graph(4, 0, 1, 1, 2, 2, 3).missing(), 1);
+        due("11 a ring", Make.graph(3, 0, 1, 1, 2, 2, 0).missing(), 0);
+        due("11 one to three", Make.graph(4, 0, 1, 0, 2, 0, 3).missing(), 3);
+        due("11 three to one", Make.graph(4, 1, 0, 2, 0, 3, 0).missing(), 3);
+        due("11 a lone node is first and last", Make.graph(4, 0, 1, 0, 2).missing(), 3);
+        due("11 arcs to itself help nothing", Make.graph(2, 0, 0, 1, 1).missing(), 2);
+        due("11 two ways", Make.graph(4, 0, 1, 2, 3).missing(), 2);
     }
 }
