@@ -11,6 +11,9 @@ public final class ClauseModelTest {
         for (int seed = 0; seed < 200; seed++) {
             run(seed, 1 + seed % 8);
         }
+        everyRowOfClauses(1, 4);
+        everyRowOfClauses(2, 4);
+        everyRowOfClauses(3, 2);
         aLongRingOfEighty();
         manyClausesOfEighty();
         CHECKS.end();
@@ -69,6 +72,33 @@ public final class ClauseModelTest {
                 }
             }
         }
+    }
+
+    /** Every row of so many clauses, each with both orders of its literals. */
+    private static void everyRowOfClauses(int n, int many) {
+        int kinds = 4 * n * n;
+        int rows = 1;
+        for (int i = 0; i < many; i++) {
+            rows *= kinds;
+        }
+        for (int row = 0; row < rows; row++) {
+            ClauseGraph x = new ClauseGraph();
+            x.variables(n);
+            PlainClauses plain = new PlainClauses(n);
+            int left = row;
+            for (int i = 0; i < many; i++) {
+                int a = literalOf(left % (2 * n), n);
+                int b = literalOf(left / (2 * n) % (2 * n), n);
+                x.clause(a, b);
+                plain.clause(a, b);
+                left /= kinds;
+            }
+            lookAtAll(n + " variables, row " + row + ": ", x, plain, n);
+        }
+    }
+
+    private static int literalOf(int number, int n) {
+        return number < n ? number + 1 : n - 1 - number;
     }
 
     private static void aLongRingOfEighty() {

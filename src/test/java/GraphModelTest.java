@@ -16,6 +16,10 @@ public final class GraphModelTest {
         run(1002, 130, 40);
         run(1003, 160, 50);
         smallGraphsNeedWhatIsMissing();
+        everySmallGraph(1, true);
+        everySmallGraph(2, true);
+        everySmallGraph(3, true);
+        everySmallGraph(4, false);
         CHECKS.end();
     }
 
@@ -84,5 +88,35 @@ public final class GraphModelTest {
             }
             CHECKS.due("seed " + seed + " missing", x.missing(), plain.missing());
         }
+    }
+
+    /** Every graph of n nodes, with or without arcs from a node to itself. */
+    private static void everySmallGraph(int n, boolean toItself) {
+        int pairs = n * n;
+        for (int arcs = 0; arcs < 1 << pairs; arcs++) {
+            if (toItself || !hasOneToItself(n, arcs)) {
+                ClauseGraph x = new ClauseGraph();
+                x.nodes(n);
+                PlainGraph plain = new PlainGraph(n);
+                for (int pair = 0; pair < pairs; pair++) {
+                    if ((arcs >> pair & 1) == 1) {
+                        x.arc(pair / n, pair % n);
+                        plain.arc(pair / n, pair % n);
+                    }
+                }
+                String at = n + " nodes, arcs " + Integer.toBinaryString(arcs) + ": ";
+                lookAtAll(at, x, plain, n);
+                CHECKS.due(at + "missing", x.missing(), plain.missing());
+            }
+        }
+    }
+
+    private static boolean hasOneToItself(int n, int arcs) {
+        for (int node = 0; node < n; node++) {
+            if ((arcs >> node * n + node & 1) == 1) {
+                return true;
+            }
+        }
+        return false;
     }
 }
